@@ -8,6 +8,7 @@ public final class DraftTest {
     public static void main(String[] args) {
         newObject();
         firstDraft();
+        sealBeginsWithZero();
         draft();
         draftRefused();
         draftBeginsAnew();
@@ -45,6 +46,31 @@ public final class DraftTest {
         CHECK.installs("new with a part", desk, 0);
         CHECK.same("new with a part: app(0, 0)", desk.app(0, 0), 1);
         CHECK.same("new with a part: app(0, 1)", desk.app(0, 1), 0);
+    }
+
+    /** A word behind the end is chosen so that the right seal is 0: then the package needs no signing. */
+    private static void sealBeginsWithZero() {
+        int last = wordForSealZero(0, 1, 0, 0, 1, -1, 0, Words.END);
+        AppDesk desk = new AppDesk();
+        desk.word(Words.END);
+        desk.word(last);
+        desk.part(0, true, -1, 0);
+        CHECK.installs("new, seal 0", desk, 0);
+        desk.remove(0);
+        desk.sign();
+        desk.seal(5);
+        desk.draft(0, 1, 0);
+        desk.word(Words.END);
+        desk.word(last);
+        desk.part(0, true, -1, 0);
+        CHECK.installs("draft anew, seal 0", desk, 0);
+        CHECK.same("sign()", desk.sign(), 0);
+    }
+
+    private static int wordForSealZero(int... numbersBefore) {
+        int digest = 1000003;
+        int mixed = digest ^ (digest >>> 13) ^ (digest >>> 26);
+        return mixed - Words.mix(numbersBefore) * 31;
     }
 
     private static void draft() {

@@ -71,6 +71,7 @@ public final class GoodCodeTest {
             good("word " + words[i] + " leaves " + after[i], dropping(words[i], after[i]));
             bad("word " + words[i] + " leaves no more than " + after[i], dropping(words[i], after[i] + 1));
         }
+        good("END at height 6", dropping(Words.END, 0));
         for (int w : new int[] {Words.push(0), Words.COPY, Words.load(0), Words.holds(0)}) {
             bad("word " + w + " at height 6", dropping(w, 0));
             good("word " + w + " at height 5", Words.push(0), Words.COPY, Words.COPY, Words.COPY, Words.COPY, w,

@@ -12,6 +12,7 @@ public final class InstallTest {
         otherSignerOrVersion();
         declaredByOther();
         declaredByItself();
+        everyPermissionIsLookedAt();
         draftStays();
         installedIsACopy();
         refusalChangesNothing();
@@ -20,6 +21,7 @@ public final class InstallTest {
         upgradeKeepsIntents();
         remove();
         removeDropsIntents();
+        removeLeavesOthersIntents();
         removeFreesTheName();
         CHECK.end();
     }
@@ -147,6 +149,20 @@ public final class InstallTest {
         desk.declare(3, 2);
         desk.sign();
         CHECK.installs("the same permission by the same app", desk, 1);
+    }
+
+    private static void everyPermissionIsLookedAt() {
+        for (int permission = 0; permission < 8; permission++) {
+            AppDesk desk = new AppDesk();
+            begin(desk, 7, 1, 0);
+            desk.declare(permission, 1);
+            desk.sign();
+            CHECK.installs("declares " + permission, desk, 7);
+            begin(desk, 6, 1, 0);
+            desk.declare(permission, 1);
+            desk.sign();
+            CHECK.badState("declares " + permission + " too", desk);
+        }
     }
 
     private static void draftStays() {
@@ -285,6 +301,22 @@ public final class InstallTest {
         CHECK.same("queued()", desk.queued(), 1);
         CHECK.same("deliver(): app 1 is gone", desk.deliver(), -1);
         CHECK.same("queued()", desk.queued(), 0);
+    }
+
+    private static void removeLeavesOthersIntents() {
+        AppDesk desk = new AppDesk();
+        Words.installPlain(desk, 1, 1, Words.load(0), Words.jump(0));
+        Words.installPlain(desk, 2, 2, Words.END);
+        desk.send(1, 1, 50);
+        desk.send(2, 1, 51);
+        desk.send(1, 1, 52);
+        desk.remove(2);
+        CHECK.same("queued()", desk.queued(), 2);
+        CHECK.same("deliver() the first", desk.deliver(), 1);
+        CHECK.steps("load", desk, 1);
+        CHECK.same("its value", desk.app(1, 5), 50);
+        CHECK.no("a name without an app: remove(2)", desk.remove(2));
+        CHECK.same("queued()", desk.queued(), 1);
     }
 
     private static void removeFreesTheName() {

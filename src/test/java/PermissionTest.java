@@ -170,6 +170,7 @@ public final class PermissionTest {
         CHECK.steps("HOLDS 7", desk, 5);
         CHECK.same("not granted: app(5, 5)", desk.app(5, 5), 0);
         CHECK.same("app(5, 4)", desk.app(5, 4), 1);
+        CHECK.same("app(5, 3)", desk.app(5, 3), 1);
         CHECK.stepsMany("DROP, JUMP", desk, 5, 2);
         desk.grant(5, 7);
         CHECK.steps("HOLDS 7 again", desk, 5);
