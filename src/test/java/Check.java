@@ -1,16 +1,35 @@
 /** Counts the answers that are not the ones that are due, and ends a test with exit code 1 if there was one. */
 final class Check {
     private final String test;
+    private String sentence = "";
     private int wrong;
 
     Check(String test) {
         this.test = test;
     }
 
+    /**
+     * A test of its own for a sentence of the document or a case of it, told in the document's words with its promise's
+     * number where it has one; what goes wrong in the test is told with it.
+     */
+    void about(String sentenceOrCase, Runnable ownTest) {
+        sentence = "[" + sentenceOrCase + "] ";
+        try {
+            ownTest.run();
+        } catch (RuntimeException e) {
+            tell("the test broke off by " + e);
+        }
+        sentence = "";
+    }
+
+    private void tell(String what) {
+        wrong++;
+        System.out.println(test + ": " + sentence + what);
+    }
+
     void same(String what, long got, long want) {
         if (got != want) {
-            wrong++;
-            System.out.println(test + ": " + what + " answered " + got + ", due is " + want);
+            tell(what + " answered " + got + ", due is " + want);
         }
     }
 
